@@ -1,0 +1,96 @@
+/** Counts what is as due and what is not; every test ends with close(). */
+final class Checks {
+    static final Class<IndexOutOfBoundsException> NO_PLACE = IndexOutOfBoundsException.class;
+    static final Class<IllegalArgumentException> NO_ARGUMENT = IllegalArgumentException.class;
+    static final Class<IllegalStateException> NO_STATE = IllegalStateException.class;
+
+    private int right = 0;
+    private int wrong = 0;
+
+    void due(String what, long got, long want) {
+        tell(got == want, what + " answered " + got + ", due is " + want);
+    }
+
+    void dueExactly(String what, double got, double want) {
+        tell(got == want, what + " answered " + got + ", due is " + want);
+    }
+
+    /** The call throws exactly this, and the digest shows that no SHEET has changed. */
+    void refuses(String what, ParallaxSheets on, Class<?> want, Runnable call) {
+        long before = on.digest();
+        Class<?> got = null;
+        try {
+            call.run();
+        } catch (RuntimeException e) {
+            got = e.getClass();
+        }
+        tell(got == want, what + " threw " + got + ", due is " + want);
+        tell(on.digest() == before, what + " changed something");
+    }
+
+    /** The SHEET has just these rows. */
+    void shows(String what, ParallaxSheets on, int sheet, int[]... rows) {
+        due(what + ": H", on.sheet(sheet, 1), rows.length);
+        due(what + ": W", on.sheet(sheet, 0), rows[0].length);
+        for (int y = 0; y < rows.length && y < on.sheet(sheet, 1); y++) {
+            for (int x = 0; x < rows[y].length && x < on.sheet(sheet, 0); x++) {
+                due(what + ": value at " + x + ", " + y, on.value(sheet, x, y), rows[y][x]);
+            }
+        }
+    }
+
+    static int[] row(int... values) {
+        return values;
+    }
+
+    static void draw(ParallaxSheets on, int sheet, int[]... rows) {
+        on.fresh(sheet, rows[0].length, rows.length, 0);
+        for (int y = 0; y < rows.length; y++) {
+            for (int x = 0; x < rows[y].length; x++) {
+                on.dot(sheet, x, y, rows[y][x]);
+            }
+        }
+    }
+
+    /** '#' is ON (128, just so), anything else is not (127, just so). */
+    static void draw(ParallaxSheets on, int sheet, String... rows) {
+        on.fresh(sheet, rows[0].length(), rows.length, 127);
+        for (int y = 0; y < rows.length; y++) {
+            for (int x = 0; x < rows[y].length(); x++) {
+                if (rows[y].charAt(x) == '#') {
+                    on.dot(sheet, x, y, 128);
+                }
+            }
+        }
+    }
+
+    static ParallaxSheets drawn(int[]... rows) {
+        ParallaxSheets made = new ParallaxSheets();
+        draw(made, 0, rows);
+        return made;
+    }
+
+    static ParallaxSheets drawn(String... rows) {
+        ParallaxSheets made = new ParallaxSheets();
+        draw(made, 0, rows);
+        return made;
+    }
+
+    void tell(boolean isRight, String what) {
+        if (isRight) {
+            right++;
+        } else {
+            wrong++;
+            if (wrong <= 20) {
+                System.out.println("WRONG: " + what);
+            }
+        }
+    }
+
+    void close() {
+        System.out.println(right + " right, " + wrong + " wrong");
+        if (wrong != 0) {
+            System.exit(1);
+        }
+    }
+}
