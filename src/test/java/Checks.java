@@ -30,10 +30,12 @@ final class Checks {
 
     /** The SHEET has just these rows. */
     void shows(String what, ParallaxSheets on, int sheet, int[]... rows) {
-        due(what + ": H", on.sheet(sheet, 1), rows.length);
-        due(what + ": W", on.sheet(sheet, 0), rows[0].length);
-        for (int y = 0; y < rows.length && y < on.sheet(sheet, 1); y++) {
-            for (int x = 0; x < rows[y].length && x < on.sheet(sheet, 0); x++) {
+        int w = on.sheet(sheet, 0);
+        int h = on.sheet(sheet, 1);
+        due(what + ": W", w, rows[0].length);
+        due(what + ": H", h, rows.length);
+        for (int y = 0; y < Math.min(h, rows.length); y++) {
+            for (int x = 0; x < Math.min(w, rows[y].length); x++) {
                 due(what + ": value at " + x + ", " + y, on.value(sheet, x, y), rows[y][x]);
             }
         }

@@ -190,6 +190,13 @@ public final class DrawingTest {
         CHECKS.shows("half of a column", s, 0, Checks.row(15), Checks.row(17));
         CHECKS.due("twice", s.turn(0, 3), 8);
         CHECKS.shows("twice", s, 0, Checks.row(15, 15), Checks.row(15, 15), Checks.row(17, 17), Checks.row(17, 17));
+        Checks.draw(s, 0, Checks.row(1, 2, 3, 4, 50), Checks.row(5, 6, 7, 8, 50), Checks.row(9, 10, 11, 12, 50),
+                Checks.row(13, 14, 15, 19, 50));
+        CHECKS.due("half, without the odd column", s.turn(0, 2), 4);
+        CHECKS.shows("half", s, 0, Checks.row(3, 5), Checks.row(11, 14));
+        CHECKS.due("twice", s.turn(0, 3), 16);
+        CHECKS.shows("twice", s, 0, Checks.row(3, 3, 5, 5), Checks.row(3, 3, 5, 5),
+                Checks.row(11, 11, 14, 14), Checks.row(11, 11, 14, 14));
         s.fresh(1, 8, 8, 1);
         CHECKS.due("twice 8 is 16", s.turn(1, 3), 256);
     }

@@ -106,6 +106,13 @@ public final class FiltersTest {
         CHECKS.due("greatest of the cross", s.filter(3, 6), 8);
         CHECKS.shows("greatest of the cross", s, 3,
                 Checks.row(40, 50, 60), Checks.row(70, 80, 90), Checks.row(80, 90, 90));
+        Checks.draw(s, 0, Checks.row(1, 5, 9), Checks.row(5, 2, 5), Checks.row(9, 5, 9));
+        s.copy(0, 1);
+        s.filter(0, 4);
+        CHECKS.due("the middle is of the cross, not the corner", s.value(0, 1, 1), 2);
+        s.dot(1, 1, 1, 7);
+        s.filter(1, 6);
+        CHECKS.due("the middle is of the cross, not the corner", s.value(1, 1, 1), 7);
     }
 
     private static void promise12OpeningAndClosing() {
@@ -192,6 +199,9 @@ public final class FiltersTest {
         CHECKS.due("of two cuts the smaller", s.sheet(0, 5), 1);
         s.fresh(0, 3, 3, 255);
         CHECKS.due("no cut", s.sheet(0, 5), 0);
+        Checks.draw(s, 0, Checks.row(3, 5, 6, 11));
+        // t 4: 13 * 13 / 3 = 56; t 6: 18 * 18 / 4 = 81; t 7 (14 * 1 - 11 * 3, squared, / 3): 120.
+        CHECKS.due("cut by the sums", s.sheet(0, 5), 7);
         Checks.draw(s, 0, Checks.row(254, 255));
         CHECKS.due("last cut", s.sheet(0, 5), 255);
         s.fresh(0, 16, 16, 0);
