@@ -459,21 +459,29 @@ public final class ParallaxSheets {
         if (it.near(x, y) < ON_FROM) {
             return 0;
         }
-        int least = Integer.MAX_VALUE;
+        int within = farWithin(it, way, x, y);
+        return within > 0 ? within : farToOutside(it, way, x, y);
+    }
+
+    /** The least distance of a FIELD that is ON to one that is not; 0 if there is none. */
+    private static int farWithin(Sheet it, int way, int x, int y) {
+        int least = 0;
         for (int row = 0; row < it.height; row++) {
             for (int column = 0; column < it.width; column++) {
                 if (it.near(column, row) < ON_FROM) {
-                    least = Math.min(least, distance(way, column - x, row - y));
+                    int distance = distance(way, column - x, row - y);
+                    least = least == 0 ? distance : Math.min(least, distance);
                 }
             }
         }
-        if (least == Integer.MAX_VALUE) {
-            // All are ON: the nearest place outside then lies straight across one of the edges.
-            int across = Math.min(x + 1, it.width - x);
-            int along = Math.min(y + 1, it.height - y);
-            return distance(way, Math.min(across, along), 0);
-        }
         return least;
+    }
+
+    /** The nearest place outside of the SHEET lies straight across one of its edges. */
+    private static int farToOutside(Sheet it, int way, int x, int y) {
+        int across = Math.min(x + 1, it.width - x);
+        int along = Math.min(y + 1, it.height - y);
+        return distance(way, Math.min(across, along), 0);
     }
 
     private static int distance(int way, int dx, int dy) {

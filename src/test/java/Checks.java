@@ -6,6 +6,12 @@ final class Checks {
 
     private int right = 0;
     private int wrong = 0;
+    private String sentence = "";
+
+    /** What is checked from here on holds to this sentence of the document; told with what is wrong. */
+    void sentence(String words) {
+        sentence = words;
+    }
 
     void due(String what, long got, long want) {
         tell(got == want, what + " answered " + got + ", due is " + want);
@@ -39,6 +45,13 @@ final class Checks {
                 due(what + ": value at " + x + ", " + y, on.value(sheet, x, y), rows[y][x]);
             }
         }
+    }
+
+    /** Every FIELD of the SHEET, of the size told, has this VALUE. */
+    void isAll(String what, ParallaxSheets on, int sheet, int w, int h, int value) {
+        due(what + ": W", on.sheet(sheet, 0), w);
+        due(what + ": H", on.sheet(sheet, 1), h);
+        due(what + ": how many have the value", on.count(sheet, value, value), w * h);
     }
 
     static int[] row(int... values) {
@@ -78,13 +91,35 @@ final class Checks {
         return made;
     }
 
+    static ParallaxSheets even(int w, int h, int value) {
+        ParallaxSheets made = new ParallaxSheets();
+        made.fresh(0, w, h, value);
+        return made;
+    }
+
+    /** 16 times 16, ON just where x + y is even. */
+    static ParallaxSheets chessboard() {
+        String[] rows = new String[16];
+        for (int y = 0; y < rows.length; y++) {
+            rows[y] = (y % 2 == 0 ? "#." : ".#").repeat(8);
+        }
+        return drawn(rows);
+    }
+
+    /** 16 times 16, with each VALUE once: x + 16 * y. */
+    static ParallaxSheets eachValueOnce() {
+        ParallaxSheets made = even(16, 16, 0);
+        made.shade(0, 1, 16, 0);
+        return made;
+    }
+
     void tell(boolean isRight, String what) {
         if (isRight) {
             right++;
         } else {
             wrong++;
             if (wrong <= 20) {
-                System.out.println("WRONG: " + what);
+                System.out.println("WRONG: " + what + (sentence.isEmpty() ? "" : " [" + sentence + "]"));
             }
         }
     }

@@ -65,7 +65,7 @@ public final class ModelTest {
 
     private static boolean isSame(Checks checks, String where, ParallaxSheets program, Model model,
             int number, int[] a) {
-        String got = answer(() -> call(program, number, a));
+        String got = answer(() -> Calls.make(program, CALLS[number][0], a));
         String want = answer(() -> model.call(number, a));
         checks.tell(got.equals(want), where + ": " + CALLS[number][0] + Arrays.toString(a)
                 + " answered " + got + ", due is " + want);
@@ -129,41 +129,6 @@ public final class ModelTest {
             return String.valueOf(call.make());
         } catch (RuntimeException e) {
             return "throws." + e.getClass().getSimpleName();
-        }
-    }
-
-    private static Object call(ParallaxSheets s, int number, int[] a) {
-        switch (number) {
-            case 0: return s.fresh(a[0], a[1], a[2], a[3]);
-            case 1: return s.dot(a[0], a[1], a[2], a[3]);
-            case 2: return s.box(a[0], a[1], a[2], a[3], a[4], a[5]);
-            case 3: return s.disc(a[0], a[1], a[2], a[3], a[4]);
-            case 4: return s.shade(a[0], a[1], a[2], a[3]);
-            case 5: return s.copy(a[0], a[1]);
-            case 6: return s.mix(a[0], a[1], a[2]);
-            case 7: return s.turn(a[0], a[1]);
-            case 8: return s.kernel(a[0], a[1]);
-            case 9: return s.divide(a[0], a[1]);
-            case 10: return s.filter(a[0], a[1]);
-            case 11: return s.values(a[0], a[1]);
-            case 12: return s.value(a[0], a[1], a[2]);
-            case 13: return s.sheet(a[0], a[1]);
-            case 14: return s.count(a[0], a[1], a[2]);
-            case 15: return s.ordered(a[0], a[1]);
-            case 16: return s.difference(a[0], a[1]);
-            case 17: return s.parts(a[0], a[1]);
-            case 18: return s.holes(a[0], a[1]);
-            case 19: return s.partOf(a[0], a[1], a[2], a[3]);
-            case 20: return s.part(a[0], a[1], a[2], a[3]);
-            case 21: return s.keep(a[0], a[1]);
-            case 22: return s.far(a[0], a[1], a[2], a[3]);
-            case 23: return s.spread(a[0], a[1]);
-            case 24: return s.carve(a[0]);
-            case 25: return s.widen(a[0]);
-            case 26: return s.seam(a[0], a[1]);
-            case 27: return s.partsAt(a[0], a[1], a[2]);
-            case 28: return s.carvedBy(a[0], a[1]);
-            default: return s.digest();
         }
     }
 }
