@@ -8,7 +8,10 @@ final class Checks {
     private int wrong = 0;
     private String sentence = "";
 
-    /** What is checked from here on holds to this sentence of the document; told with what is wrong. */
+    /**
+     * What is checked from here on holds to this sentence of the document, or to it in the case that is named
+     * behind a colon; told with what is wrong.
+     */
     void sentence(String words) {
         sentence = words;
     }

@@ -388,6 +388,7 @@ public final class DrawingEdgesTest {
         CHECKS.due("half", half.turn(0, 2), 64);
         // (4 * v + 1 + 16 + 17) / 4 = v + 8
         CHECKS.due("the first", half.value(0, 0, 0), 8);
+        CHECKS.due("one within", half.value(0, 3, 4), 6 + 16 * 8 + 8);
         CHECKS.due("the last", half.value(0, 7, 7), 14 + 16 * 14 + 8);
         ParallaxSheets row = Checks.even(16, 1, 3);
         CHECKS.due("a row", row.turn(0, 0), 16);

@@ -191,6 +191,7 @@ public final class RefusalsTest {
     }
 
     private static void whatIsAllowedIsTaken(Limited limited) {
+        CHECKS.sentence("");
         for (int k = 0; k < limited.limits.length; k++) {
             for (int allowed : new int[] {limited.limits[k].low, limited.limits[k].high}) {
                 int[] a = limited.allowed();
@@ -202,6 +203,7 @@ public final class RefusalsTest {
     }
 
     private static void whatIsJustOutsideIsRefused(Limited limited) {
+        CHECKS.sentence("A method that throws an exception changes nothing.");
         for (int k = 0; k < limited.limits.length; k++) {
             for (int wrong : limited.limits[k].wrong) {
                 int[] a = limited.allowed();
@@ -213,6 +215,7 @@ public final class RefusalsTest {
 
     /** Every choice of arguments that are wrong together; a place that is not there is always named first. */
     private static void ofSeveralTheFirstNamedIsThrown(Limited limited) {
+        CHECKS.sentence("If several exceptions apply, the one that is named first is thrown.");
         for (int choice = 1; choice < 1 << limited.limits.length; choice++) {
             for (int side = 0; side < 2; side++) {
                 int[] a = limited.allowed();
