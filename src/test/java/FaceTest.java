@@ -8,24 +8,46 @@ import java.util.List;
 import java.util.TreeSet;
 import java.util.stream.Collectors;
 
-/** The public face: its members, their types and the exceptions that they name, and no others. */
+/**
+ * The public face: its members, their types, the names of their arguments (kept by -parameters, see .ci/run) and the
+ * exceptions that they name, and no others.
+ */
 public final class FaceTest {
     private static final Checks CHECKS = new Checks();
     private static final String PLACE = " IndexOutOfBoundsException";
     private static final String ARGUMENT = " IllegalArgumentException";
     private static final String STATE = " IllegalStateException";
     private static final List<String> FACE = List.of(
-            "int fresh/4" + PLACE + ARGUMENT, "int dot/4" + PLACE + ARGUMENT, "int box/6" + PLACE + ARGUMENT,
-            "int disc/5" + PLACE + ARGUMENT, "int shade/4" + PLACE + ARGUMENT, "int copy/2" + PLACE,
-            "int mix/3" + PLACE + ARGUMENT + STATE, "int turn/2" + PLACE + ARGUMENT + STATE,
-            "int kernel/2" + PLACE + ARGUMENT, "int divide/2" + ARGUMENT, "int filter/2" + PLACE + ARGUMENT,
-            "int values/2" + PLACE + ARGUMENT, "int value/3" + PLACE, "int sheet/2" + PLACE + ARGUMENT,
-            "int count/3" + PLACE, "int ordered/2" + PLACE, "double difference/2" + PLACE + STATE,
-            "int parts/2" + PLACE + ARGUMENT, "int holes/2" + PLACE + ARGUMENT, "int partOf/4" + PLACE + ARGUMENT,
-            "int part/4" + PLACE + ARGUMENT, "int keep/2" + PLACE + ARGUMENT, "int far/4" + PLACE + ARGUMENT,
-            "int spread/2" + PLACE + ARGUMENT, "int carve/1" + PLACE + STATE, "int widen/1" + PLACE + STATE,
-            "int seam/2" + PLACE, "int partsAt/3" + PLACE + ARGUMENT, "int carvedBy/2" + PLACE + ARGUMENT,
-            "long digest/0");
+            "int fresh(sheet, w, h, value)" + PLACE + ARGUMENT,
+            "int dot(sheet, x, y, value)" + PLACE + ARGUMENT,
+            "int box(sheet, x, y, toX, toY, value)" + PLACE + ARGUMENT,
+            "int disc(sheet, x, y, radius, value)" + PLACE + ARGUMENT,
+            "int shade(sheet, across, along, rough)" + PLACE + ARGUMENT,
+            "int copy(from, to)" + PLACE,
+            "int mix(to, from, share)" + PLACE + ARGUMENT + STATE,
+            "int turn(sheet, how)" + PLACE + ARGUMENT + STATE,
+            "int kernel(place, weight)" + PLACE + ARGUMENT,
+            "int divide(divisor, base)" + ARGUMENT,
+            "int filter(sheet, how)" + PLACE + ARGUMENT,
+            "int values(sheet, how)" + PLACE + ARGUMENT,
+            "int value(sheet, x, y)" + PLACE,
+            "int sheet(sheet, what)" + PLACE + ARGUMENT,
+            "int count(sheet, low, high)" + PLACE,
+            "int ordered(sheet, k)" + PLACE,
+            "double difference(one, other)" + PLACE + STATE,
+            "int parts(sheet, ways)" + PLACE + ARGUMENT,
+            "int holes(sheet, ways)" + PLACE + ARGUMENT,
+            "int partOf(sheet, ways, x, y)" + PLACE + ARGUMENT,
+            "int part(sheet, ways, part, what)" + PLACE + ARGUMENT,
+            "int keep(sheet, ways)" + PLACE + ARGUMENT,
+            "int far(sheet, way, x, y)" + PLACE + ARGUMENT,
+            "int spread(sheet, way)" + PLACE + ARGUMENT,
+            "int carve(sheet)" + PLACE + STATE,
+            "int widen(sheet)" + PLACE + STATE,
+            "int seam(sheet, y)" + PLACE,
+            "int partsAt(sheet, ways, t)" + PLACE + ARGUMENT,
+            "int carvedBy(sheet, seams)" + PLACE + ARGUMENT,
+            "long digest()");
 
     public static void main(String[] args) {
         classIsPublicAndFinal();
@@ -61,7 +83,9 @@ public final class FaceTest {
     private static String written(Method m) {
         String exceptions = Arrays.stream(m.getExceptionTypes()).map(e -> " " + e.getSimpleName())
                 .collect(Collectors.joining());
-        return m.getReturnType() + " " + m.getName() + "/" + m.getParameterCount() + exceptions;
+        String arguments = Arrays.stream(m.getParameters()).map(p -> p.getName())
+                .collect(Collectors.joining(", ", "(", ")"));
+        return m.getReturnType() + " " + m.getName() + arguments + exceptions;
     }
 
     private static void argumentsAreWhole() {
